@@ -661,13 +661,13 @@ public final class SpiralDominoes {
         int numberOfReach(int what) {
             switch (what) {
                 case 0:
-                    return leastOf(xs, true);
+                    return least(true);
                 case 1:
-                    return greatestOf(xs, true);
+                    return greatest(true);
                 case 2:
-                    return leastOf(ys, false);
+                    return least(false);
                 case 3:
-                    return greatestOf(ys, false);
+                    return greatest(false);
                 case 4:
                     return turnsTo(RIGHT);
                 default:
@@ -675,26 +675,30 @@ public final class SpiralDominoes {
             }
         }
 
-        private int leastOf(int[] firstCells, boolean columns) {
-            int least = NONE;
-            for (int k = 0; k < size && k < TILES && k < firstCells.length; k++) {
-                int cell = Math.min(firstCells[k], firstCells[k] + step(ways[k], columns));
-                least = k == 0 ? cell : Math.min(least, cell);
+        private int least(boolean columns) {
+            int found = NONE;
+            for (int k = 0; k < size && k < TILES; k++) {
+                int cell = Math.min(0, step(k, columns)) + (columns ? xs[k] : ys[k]);
+                found = k == 0 ? cell : Math.min(found, cell);
             }
-            return least;
+            return found;
         }
 
-        private int greatestOf(int[] firstCells, boolean columns) {
-            int greatest = NONE;
-            for (int k = 0; k < size && k < TILES && k < firstCells.length; k++) {
-                int cell = Math.max(firstCells[k], firstCells[k] + step(ways[k], columns));
-                greatest = k == 0 ? cell : Math.max(greatest, cell);
+        private int greatest(boolean columns) {
+            int found = NONE;
+            for (int k = 0; k < size && k < TILES; k++) {
+                int cell = Math.max(0, step(k, columns)) + (columns ? xs[k] : ys[k]);
+                found = k == 0 ? cell : Math.max(found, cell);
             }
-            return greatest;
+            return found;
         }
 
-        private static int step(int way, boolean columns) {
-            return columns ? stepX(way) : stepY(way);
+        // How far the second cell of a tile lies from the first one.
+        private int step(int k, boolean columns) {
+            if (k < 0 || k >= TILES) {
+                return 0;
+            }
+            return columns ? stepX(ways[k]) : stepY(ways[k]);
         }
 
         // Also the turn behind the last tile counts, which no tile has followed yet.

@@ -168,6 +168,15 @@ public final class ActionTest {
         Check.due("the score", heap.playerOf(2, 2), 168 - 5 - 2 * 23);
     }
 
+    private static void promise15BlockedAndWonByAnother() {
+        // 0 has 44 pips, 1 has 22, 2 has 46, and 3 has 28.
+        SpiralDominoes x = Games.acted("d441p11lp05lp06lp12lwwwwp01lp03rwwwwssss");
+        Check.due("the round is over", x.about(1), 2);
+        Check.due("the score of 1", x.playerOf(1, 2), 44 + 22 + 46 + 28 - 2 * 22);
+        Check.due("rounds won by 1", x.playerOf(1, 3), 1);
+        Check.due("the score of 0", x.playerOf(0, 2), 0);
+    }
+
     private static void promise16Undo() {
         SpiralDominoes x = new SpiralDominoes();
         Check.state("undo() of nothing", () -> x.undo());
@@ -228,6 +237,22 @@ public final class ActionTest {
         Games.sameView("the last action again", Games.view(won), Games.view(Games.acted(Games.WON)));
     }
 
+    private static void promise16UndoOfPassAndOfAChain() {
+        String untilThree = Games.BLOCKED.substring(0, Games.BLOCKED.length() - 1);
+        SpiralDominoes x = Games.acted(untilThree);
+        x.pass();
+        Check.due("undo() of pass()", x.undo(), 13);
+        Games.sameView("undo() of pass()", Games.view(x), Games.view(Games.acted(untilThree)));
+        x.undo();
+        Check.due("about(8) behind undo() of pass()", x.about(8), 2);
+        SpiralDominoes turned = Games.acted(Games.COVERED);
+        Games.act(turned, "d311d311d311p13lp02lp05r");
+        for (int k = 0; k < 6; k++) {
+            turned.undo();
+        }
+        Games.sameView("undo() of another chain", Games.view(turned), Games.view(Games.acted(Games.COVERED)));
+    }
+
     private static void promise16KeepsTheText() {
         SpiralDominoes x = Games.acted("d311w");
         Games.write(x, "Nd");
@@ -243,9 +268,11 @@ public final class ActionTest {
         promise13LastTileWins();
         promise14Draw();
         promise15Pass();
+        promise15BlockedAndWonByAnother();
         promise16Undo();
         promise16UndoForgetsTheOldest();
         promise16WhatIsRemembered();
+        promise16UndoOfPassAndOfAChain();
         promise16KeepsTheText();
         Check.end();
     }

@@ -49,6 +49,7 @@ public final class QuestionTest {
         sets("d311p26r", Games.setOf(12), 12);
         sets("d311p21r", Games.setOf(12), 12);
         sets("d311p13r", Games.setOf(2), 2);
+        sets("d303p10lp04l", Games.setOf(0), 0);
         sets(Games.COVERED, 0, -1);
         sets(Games.AT_THE_EDGE, 0, -1);
         sets(Games.WON, 0, -1);
@@ -97,6 +98,8 @@ public final class QuestionTest {
         chains("d311", 1, 1, 2, 2, 2, 2, 2);
         // 45 50 01.
         chains("d311", 2, 1, 2, 3, 3, 3, 3);
+        // 00 02 24 43 35, from the double blank on.
+        chains("d233", 1, 1, 2, 3, 4, 5, 5);
         chains("d311", 3, 0, 0, 0, 0, 0, 0);
         // The end is 5: 53 31 16 and 53 31 14.
         chains("d311p11r", 1, 1, 2, 3, 3, 3, 3);
@@ -134,6 +137,7 @@ public final class QuestionTest {
         reach("d311", -1, -1, -1, -1, 0, 0);
         reach("d311p11r", 12, 13, 12, 12, 0, 0);
         reach("d311p07r", 12, 13, 12, 12, 1, 0);
+        reach("d310p22rp23lp25rp05rp04l", 9, 13, 12, 16, 2, 0);
         reach("d311p13lp02lp05r", 12, 13, 8, 12, 0, 1);
         reach(Games.COVERED, 12, 17, 12, 16, 3, 0);
         reach("d430p20lp05rp00lp06rp27lp17lp13r", 12, 17, 8, 12, 1, 2);

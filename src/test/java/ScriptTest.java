@@ -57,8 +57,13 @@ public final class ScriptTest {
         script("d311", 2, 50028001, -1);
         script("d311", 2, 50029002, -1);
         script("d311", 2, 50029003, 1);
+        commands("d437", true, 5009);
+        script("d228wwwwwww", 2, 50095001, -1);
+        commands("d228wwwwwww", false, 5010, 5100);
         // The doubles of best are laid to the right.
-        script("d430p20lp05r", 2, 50019003, -1);
+        String until = "d430p20lp05rp00rp06rp27rp17l";
+        script(until, 4, 5001300020082009L, 3);
+        script(until, 4, 2113300020082009L, -1);
     }
 
     private static void promise22Questions() {
@@ -142,6 +147,12 @@ public final class ScriptTest {
                     simulates(game, seed, m, byCalls(game, seed, m));
                 }
             }
+        }
+        // A bare table is its own mirror image: only from a chain that has turned, left and right make a difference.
+        for (int seed = 0; seed < 300; seed++) {
+            simulates("", seed, 150, byCalls("", seed, 150));
+            simulates(Games.COVERED, seed, 20, byCalls(Games.COVERED, seed, 20));
+            simulates("d430p20lp05rp00rp06rp27rp17l", seed, 6, byCalls("d430p20lp05rp00rp06rp27rp17l", seed, 6));
         }
         SpiralDominoes x = Games.acted("d311");
         for (int m : new int[] {0, 201, -1, MIN, MAX}) {

@@ -115,11 +115,14 @@ public final class TextTest {
     }
 
     private static void promise5LoadMakesNew() {
-        SpiralDominoes x = Games.acted(Games.WON);
+        SpiralDominoes refused = Games.acted("d311w");
+        Check.due("play() refused", refused.play(0, false), 1);
+        Games.write(refused, "N");
+        Check.due("load() of N", refused.load(), 0);
+        Games.sameView("load() of N behind a refused play()", Games.view(refused), Games.view(new SpiralDominoes()));
+        SpiralDominoes x = Games.acted(Games.BLOCKED);
         x.save(0);
         x.save(1);
-        x.deal(2, 5);
-        x.play(28 - 1, false);
         Games.write(x, "N");
         Check.due("load() of N", x.load(), 0);
         Games.sameView("load() of N", Games.view(x), Games.view(new SpiralDominoes()));
