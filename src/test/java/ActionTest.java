@@ -21,30 +21,36 @@ public final class ActionTest {
     }
 
     private static void promise12Deal() {
-        SpiralDominoes x = new SpiralDominoes();
         long[] seeds = {0, 1, -1, 11, 99, Long.MIN_VALUE, Long.MAX_VALUE, 123456789012345678L};
-        int rounds = 0;
         for (long seed : seeds) {
+            Counted x = new Counted();
+            int[] row = shuffled(seed);
             for (int players = 2; players <= 4; players++) {
-                int turn = rounds % players;
-                rounds++;
-                Check.due("deal()", x.deal(players, seed), rounds);
-                int[] row = shuffled(seed);
+                Check.due("deal()", x.deal(players, seed), players - 1);
                 for (int i = 0; i < 28; i++) {
                     int holder = i < 5 * players ? i / 5 : -1;
                     int inHeap = i < 5 * players ? -1 : i - 5 * players;
                     Check.due("holder, seed " + seed, x.tileOf(row[i], 2), holder);
                     Check.due("place in the heap, seed " + seed, x.tileOf(row[i], 4), inHeap);
                 }
-                Check.due("the turn, seed " + seed, x.about(3), turn);
             }
         }
     }
 
+    private static void promise12WhoseTurnItIs() {
+        Counted x = new Counted();
+        int[] players = {2, 2, 2, 3, 3, 3, 4, 4, 4, 4, 4, 3, 2};
+        int[] turns = {0, 1, 0, 0, 1, 2, 2, 3, 0, 1, 2, 2, 0};
+        for (int k = 0; k < players.length; k++) {
+            Check.due("deal() as number " + k, x.deal(players[k], 5), k + 1);
+            Check.due("the turn behind deal() as number " + k, x.about(3), turns[k]);
+        }
+    }
+
     private static void promise12DealEndsTheRoundOfBefore() {
-        SpiralDominoes x = Games.acted("d311p07lp12rp17r");
+        Counted x = Games.acted("d311p07lp12rp17r");
         Check.due("deal() in a round", x.deal(2, 33), 2);
-        SpiralDominoes fresh = Games.acted("d200d233");
+        Counted fresh = Games.acted("d200d233");
         for (int what : new int[] {0, 1, 2, 3, 4, 5, 6, 7, 8, 9, 10}) {
             Check.due("about(" + what + ") behind deal()", x.about(what), fresh.about(what));
         }
@@ -52,7 +58,7 @@ public final class ActionTest {
             Check.due("a round that is not over scores nothing", x.playerOf(p, 2), 0);
             Check.due("a round that is not over is not won", x.playerOf(p, 3), 0);
         }
-        SpiralDominoes passed = Games.acted("d468p01rp08lp14rp20rp23rp24rwwwwwwwwsss");
+        Counted passed = Games.acted("d468p01rp08lp14rp20rp23rp24rwwwwwwwwsss");
         passed.deal(4, 68);
         Check.due("about(8) behind deal()", passed.about(8), 0);
         for (int players : new int[] {1, 5, 0, -1, MIN, MAX}) {
@@ -63,7 +69,7 @@ public final class ActionTest {
     }
 
     private static void promise13PlayTellsWhyNot() {
-        SpiralDominoes x = Games.acted("d311p11r");
+        Counted x = Games.acted("d311p11r");
         Check.due("play() of a tile that 0 has", x.play(7, false), 1);
         Check.due("play() of a tile on the table", x.play(11, false), 1);
         Check.due("play() of a tile in the heap", x.play(25, false), 1);
@@ -72,19 +78,19 @@ public final class ActionTest {
         Check.due("play() of a tile that fits", x.play(20, false), 0);
         Check.due("the turn of the next", x.about(3), 2);
         Check.due("refused so far", x.about(10), 4);
-        SpiralDominoes covered = Games.acted(Games.COVERED);
+        Counted covered = Games.acted(Games.COVERED);
         Check.due("play() on a covered cell", covered.play(9, false), 3);
         Check.due("play() that does not fit either", covered.play(14, false), 2);
         Check.due("play() that another one has", covered.play(8, false), 1);
-        SpiralDominoes edge = Games.acted(Games.AT_THE_EDGE);
+        Counted edge = Games.acted(Games.AT_THE_EDGE);
         Check.due("play() off the table", edge.play(13, false), 3);
         Check.due("play() off the table, refused", edge.about(10), 1);
         Check.due("the tiles on the table", edge.about(5), 6);
         for (int t : new int[] {-1, 28, MIN, MAX}) {
             Check.index("play(" + t + ")", () -> x.play(t, true));
-            Check.index("play(" + t + ") without a round", () -> new SpiralDominoes().play(t, true));
+            Check.index("play(" + t + ") without a round", () -> new Counted().play(t, true));
         }
-        Check.state("play() without a round", () -> new SpiralDominoes().play(0, true));
+        Check.state("play() without a round", () -> new Counted().play(0, true));
         Check.state("play() when the round is over", () -> Games.acted(Games.WON).play(2, true));
         Check.state("play() when it is blocked", () -> Games.acted(Games.BLOCKED).play(2, true));
     }
@@ -109,7 +115,7 @@ public final class ActionTest {
     }
 
     private static void promise13LastTileWins() {
-        SpiralDominoes x = Games.acted(Games.WON.substring(0, Games.WON.length() - 4));
+        Counted x = Games.acted(Games.WON.substring(0, Games.WON.length() - 4));
         Check.due("the round is played", x.about(1), 1);
         Check.due("play() of the last tile", x.play(8, false), 0);
         Check.due("the round is over", x.about(1), 2);
@@ -122,7 +128,7 @@ public final class ActionTest {
     }
 
     private static void promise14Draw() {
-        SpiralDominoes x = Games.acted("d311");
+        Counted x = Games.acted("d311");
         int[] heap = {24, 3, 25, 27, 0, 6, 19, 18, 22, 8, 15, 4, 16};
         for (int k = 0; k < heap.length; k++) {
             Check.due("draw()", x.draw(), heap[k]);
@@ -132,15 +138,15 @@ public final class ActionTest {
         }
         Check.state("draw() from no heap", () -> x.draw());
         Check.due("playerOf(0, 0) behind 13 draws", x.playerOf(0, 0), 18);
-        Check.state("draw() without a round", () -> new SpiralDominoes().draw());
+        Check.state("draw() without a round", () -> new Counted().draw());
         Check.state("draw() when the round is over", () -> Games.acted(Games.WON).draw());
-        SpiralDominoes next = Games.acted("d311p11r");
+        Counted next = Games.acted("d311p11r");
         next.draw();
         Check.due("the holder is the player whose turn it is", next.tileOf(24, 2), 1);
     }
 
     private static void promise15Pass() {
-        SpiralDominoes x = Games.acted("d468p01rp08lp14rp20rp23rp24rwwwwwwwwsss");
+        Counted x = Games.acted("d468p01rp08lp14rp20rp23rp24rwwwwwwwwsss");
         Check.due("three passes", x.about(8), 3);
         Check.due("the turn", x.about(3), 1);
         Check.due("the last pass", x.pass(), 2);
@@ -149,8 +155,8 @@ public final class ActionTest {
         Check.due("the score of another one with so many", x.playerOf(1, 2), 0);
         Check.due("rounds won", x.playerOf(0, 3), 1);
         Check.state("pass() when the round is over", () -> x.pass());
-        Check.state("pass() without a round", () -> new SpiralDominoes().pass());
-        SpiralDominoes heap = Games.acted("d311wwwwwwwwwwww");
+        Check.state("pass() without a round", () -> new Counted().pass());
+        Counted heap = Games.acted("d311wwwwwwwwwwww");
         Check.state("pass() with one tile in the heap", () -> heap.pass());
         heap.draw();
         Check.due("pass()", heap.pass(), 1);
@@ -170,7 +176,7 @@ public final class ActionTest {
 
     private static void promise15BlockedAndWonByAnother() {
         // 0 has 44 pips, 1 has 22, 2 has 46, and 3 has 28.
-        SpiralDominoes x = Games.acted("d441p11lp05lp06lp12lwwwwp01lp03rwwwwssss");
+        Counted x = Games.acted("d441p11lp05lp06lp12lwwwwp01lp03rwwwwssss");
         Check.due("the round is over", x.about(1), 2);
         Check.due("the score of 1", x.playerOf(1, 2), 44 + 22 + 46 + 28 - 2 * 22);
         Check.due("rounds won by 1", x.playerOf(1, 3), 1);
@@ -178,44 +184,48 @@ public final class ActionTest {
     }
 
     private static void promise16Undo() {
-        SpiralDominoes x = new SpiralDominoes();
-        Check.state("undo() of nothing", () -> x.undo());
-        String[] views = new String[40];
-        int done = 0;
-        for (String command : new String[] {"d311", "p07l", "w", "p12r", "w", "w", "d258", "w", "p02r", "w"}) {
-            views[done] = Games.view(x);
-            Games.act(x, command);
-            done++;
+        String[] commands = {"d311", "p07l", "w", "p12r", "w", "w", "d258", "w", "p02r", "w"};
+        String all = String.join("", commands);
+        String some = "";
+        for (int left = 0; left <= commands.length; left++) {
+            Counted x = Games.acted(all);
+            x.play(27, true);
+            for (int k = commands.length; k >= left; k--) {
+                Check.due("undo()", x.undo(), k);
+            }
+            Check.same("undo() down to " + left, Games.view(x), Games.view(Games.acted(some)));
+            some += left < commands.length ? commands[left] : "";
         }
-        views[done] = Games.view(x);
-        x.play(27, true);
-        done++;
-        for (int left = done - 1; left >= 0; left--) {
-            Check.due("undo()", x.undo(), left);
-            Games.sameView("undo() down to " + left, Games.view(x), views[left]);
-        }
-        Check.state("undo() of no more", () -> x.undo());
     }
 
     private static void promise16UndoForgetsTheOldest() {
-        SpiralDominoes x = new SpiralDominoes();
-        String[] views = new String[41];
-        for (int k = 0; k < 40; k++) {
-            views[k] = Games.view(x);
-            x.deal(2 + k % 3, k);
-        }
         for (int left = 13; left >= 0; left--) {
-            Check.due("undo() of 40 actions", x.undo(), left);
-            Games.sameView("undo() down to " + left + " of 14", Games.view(x), views[26 + left]);
+            Counted x = dealtOften(40);
+            for (int k = 13; k >= left; k--) {
+                Check.due("undo() of 40 actions", x.undo(), k);
+            }
+            Check.same("undo() down to " + left + " of 14", Games.view(x), Games.view(dealtOften(26 + left)));
+        }
+        Counted x = dealtOften(40);
+        for (int k = 0; k < 14; k++) {
+            x.undo();
         }
         Check.state("undo() of the 15th", () -> x.undo());
         x.deal(2, 1);
         Check.due("undo() behind a new action", x.undo(), 0);
-        Games.sameView("undo() behind a new action", Games.view(x), views[26]);
+        Check.same("undo() behind a new action", Games.view(x), Games.view(dealtOften(26)));
+    }
+
+    private static Counted dealtOften(int times) {
+        Counted x = new Counted();
+        for (int k = 0; k < times; k++) {
+            x.deal(2 + k % 3, k);
+        }
+        return x;
     }
 
     private static void promise16WhatIsRemembered() {
-        SpiralDominoes x = Games.acted("d311");
+        Counted x = Games.acted("d311");
         Check.due("play() refused", x.play(0, true), 1);
         Check.due("undo() of a refused play()", x.undo(), 1);
         Check.due("refused behind undo()", x.about(10), 0);
@@ -227,34 +237,34 @@ public final class ActionTest {
         Check.argument("deal(5)", () -> x.deal(5, 1));
         Check.index("play(28)", () -> x.play(28, true));
         Check.due("undo() passes over what is no action", x.undo(), 0);
-        Games.sameView("undo() of deal()", Games.view(x), Games.view(new SpiralDominoes()));
+        Check.same("undo() of deal()", Games.view(x), Games.view(new Counted()));
         Check.due("undo() keeps the save slots", x.restore(0), 1);
-        SpiralDominoes won = Games.acted(Games.WON);
+        Counted won = Games.acted(Games.WON);
         won.undo();
         Check.due("the score behind undo()", won.playerOf(0, 2), 0);
         Check.due("rounds won behind undo()", won.playerOf(0, 3), 0);
         Games.act(won, "p08r");
-        Games.sameView("the last action again", Games.view(won), Games.view(Games.acted(Games.WON)));
+        Check.same("the last action again", Games.view(won), Games.view(Games.acted(Games.WON)));
     }
 
     private static void promise16UndoOfPassAndOfAChain() {
         String untilThree = Games.BLOCKED.substring(0, Games.BLOCKED.length() - 1);
-        SpiralDominoes x = Games.acted(untilThree);
+        Counted x = Games.acted(untilThree);
         x.pass();
         Check.due("undo() of pass()", x.undo(), 13);
-        Games.sameView("undo() of pass()", Games.view(x), Games.view(Games.acted(untilThree)));
+        Check.same("undo() of pass()", Games.view(x), Games.view(Games.acted(untilThree)));
         x.undo();
         Check.due("about(8) behind undo() of pass()", x.about(8), 2);
-        SpiralDominoes turned = Games.acted(Games.COVERED);
+        Counted turned = Games.acted(Games.COVERED);
         Games.act(turned, "d311d311d311p13lp02lp05r");
         for (int k = 0; k < 6; k++) {
             turned.undo();
         }
-        Games.sameView("undo() of another chain", Games.view(turned), Games.view(Games.acted(Games.COVERED)));
+        Check.same("undo() of another chain", Games.view(turned), Games.view(Games.acted(Games.COVERED)));
     }
 
     private static void promise16KeepsTheText() {
-        SpiralDominoes x = Games.acted("d311w");
+        Counted x = Games.acted("d311w");
         Games.write(x, "Nd");
         x.undo();
         Check.due("the text behind undo()", x.clearText(), 2);
@@ -262,6 +272,7 @@ public final class ActionTest {
 
     public static void main(String[] args) {
         promise12Deal();
+        promise12WhoseTurnItIs();
         promise12DealEndsTheRoundOfBefore();
         promise13PlayTellsWhyNot();
         promise13DoublesTurn();

@@ -16,29 +16,32 @@ final class Check {
         }
     }
 
-    static void refused(String what, Class<? extends RuntimeException> want, Call call) {
-        Class<?> got = null;
+    /** The answer, or the name of the exception. */
+    static String outcome(Call call) {
         try {
-            call.answer();
+            return Long.toString(call.answer());
         } catch (RuntimeException e) {
-            got = e.getClass();
+            return e.getClass().getSimpleName();
         }
-        if (got != want) {
+    }
+
+    static void same(String what, String got, String want) {
+        if (!got.equals(want)) {
             wrong++;
-            System.out.println(what + " threw " + got + ", due is " + want);
+            System.out.println(what + " is " + got + ", due is " + want);
         }
     }
 
     static void index(String what, Call call) {
-        refused(what, IndexOutOfBoundsException.class, call);
+        same(what, outcome(call), "IndexOutOfBoundsException");
     }
 
     static void argument(String what, Call call) {
-        refused(what, IllegalArgumentException.class, call);
+        same(what, outcome(call), "IllegalArgumentException");
     }
 
     static void state(String what, Call call) {
-        refused(what, IllegalStateException.class, call);
+        same(what, outcome(call), "IllegalStateException");
     }
 
     static boolean isClean() {

@@ -4,7 +4,7 @@ public final class QuestionTest {
     private static final int MAX = Integer.MAX_VALUE;
 
     private static void promise17Why() {
-        SpiralDominoes x = Games.acted("d311");
+        Counted x = Games.acted("d311");
         Check.due("why(7) on the bare table", x.why(7), 0);
         Check.due("why(2) of a tile that 1 has", x.why(2), 1);
         Check.due("why(24) of a tile in the heap", x.why(24), 1);
@@ -13,12 +13,12 @@ public final class QuestionTest {
         Check.due("why(7) of a tile that 0 has", x.why(7), 1);
         Check.due("why(2)", x.why(2), 2);
         Check.due("why(20)", x.why(20), 0);
-        SpiralDominoes covered = Games.acted(Games.COVERED);
+        Counted covered = Games.acted(Games.COVERED);
         Check.due("why(9) with a covered cell", covered.why(9), 3);
         Check.due("why(12) with a covered cell", covered.why(12), 3);
         Check.due("why(14) that does not fit", covered.why(14), 2);
         Check.due("why(8) on the table", covered.why(8), 1);
-        SpiralDominoes edge = Games.acted(Games.AT_THE_EDGE);
+        Counted edge = Games.acted(Games.AT_THE_EDGE);
         Check.due("why(13) at the edge", edge.why(13), 3);
         Check.due("why(23) at the edge", edge.why(23), 2);
         for (String game : new String[] {"", Games.WON, Games.BLOCKED}) {
@@ -29,16 +29,16 @@ public final class QuestionTest {
         }
         for (int t : new int[] {-1, 28, MIN, MAX}) {
             Check.index("why(" + t + ")", () -> x.why(t));
-            Check.index("why(" + t + ") without a round", () -> new SpiralDominoes().why(t));
+            Check.index("why(" + t + ") without a round", () -> new Counted().why(t));
         }
     }
 
     private static void sets(String game, int legal, int best) {
-        SpiralDominoes x = Games.acted(game);
+        Counted x = Games.acted(game);
         String before = Games.view(x);
         Check.due(game + ": legal()", x.legal(), legal);
         Check.due(game + ": best()", x.best(), best);
-        Games.sameView(game + ": legal() and best() change nothing", Games.view(x), before);
+        Check.same(game + ": legal() and best() change nothing", Games.view(x), before);
     }
 
     private static void promises18And19LegalAndBest() {
@@ -54,7 +54,7 @@ public final class QuestionTest {
         sets(Games.AT_THE_EDGE, 0, -1);
         sets(Games.WON, 0, -1);
         sets(Games.BLOCKED, 0, -1);
-        // 2 5 and 3 4 have 7 pips both; 0 6 and 1 5 have 6 both.
+        // 3 4 has seven pips, 4 4 has eight.
         sets("d465p10r", Games.setOf(19, 22), 22);
         // The end is 2: 0 2, 1 2 and 2 3.
         sets("d465p27rp17rp13rwwwwwwww", Games.setOf(2, 8, 14), 14);
@@ -62,15 +62,15 @@ public final class QuestionTest {
     }
 
     private static void promise19TheLowestOfSeveral() {
-        SpiralDominoes x = new SpiralDominoes();
         int seen = 0;
         for (int seed = 0; seed < 100; seed++) {
+            Counted x = new Counted();
             x.deal(2, seed);
             int most = -1;
             int want = -1;
             int many = 0;
             for (int t = 0; t < 28; t++) {
-                if (x.tileOf(t, 2) == x.about(3)) {
+                if (x.tileOf(t, 2) == 0) {
                     int pips = x.tileOf(t, 0) + x.tileOf(t, 1);
                     many = pips > most ? 1 : pips == most ? many + 1 : many;
                     want = pips > most ? t : want;
@@ -84,7 +84,7 @@ public final class QuestionTest {
     }
 
     private static void chains(String game, int p, int... want) {
-        SpiralDominoes x = Games.acted(game);
+        Counted x = Games.acted(game);
         for (int max = 1; max <= 6; max++) {
             Check.due(game + ": chain(" + p + ", " + max + ")", x.chain(p, max), want[max - 1]);
         }
@@ -114,19 +114,19 @@ public final class QuestionTest {
         chains(Games.WON, 1, 0, 0, 0, 0, 0, 0);
         chains(Games.BLOCKED, 2, 0, 0, 0, 0, 0, 0);
         chains("d311wwwwwwwwwwwww", 0, 1, 2, 3, 4, 5, 6);
-        SpiralDominoes x = Games.acted("d311");
+        Counted x = Games.acted("d311");
         for (int p : new int[] {-1, 4, MIN, MAX}) {
             Check.index("chain(" + p + ", 1)", () -> x.chain(p, 1));
             Check.index("chain(" + p + ", 0)", () -> x.chain(p, 0));
         }
         for (int max : new int[] {0, 7, MIN, MAX}) {
             Check.argument("chain(0, " + max + ")", () -> x.chain(0, max));
-            Check.argument("chain(0, " + max + ") without a round", () -> new SpiralDominoes().chain(0, max));
+            Check.argument("chain(0, " + max + ") without a round", () -> new Counted().chain(0, max));
         }
     }
 
     private static void reach(String game, int... want) {
-        SpiralDominoes x = Games.acted(game);
+        Counted x = Games.acted(game);
         for (int what = 0; what < 6; what++) {
             Check.due(game + ": reach(" + what + ")", x.reach(what), want[what]);
         }
@@ -146,7 +146,7 @@ public final class QuestionTest {
         reach(Games.WON, 12, 17, 12, 20, 2, 0);
         reach(Games.WON + "d311", -1, -1, -1, -1, 0, 0);
         reach(Games.WON + "d311p09r", 12, 13, 12, 12, 0, 0);
-        SpiralDominoes x = Games.acted("d311");
+        Counted x = Games.acted("d311");
         for (int what : new int[] {-1, 6, MIN, MAX}) {
             Check.argument("reach(" + what + ")", () -> x.reach(what));
         }

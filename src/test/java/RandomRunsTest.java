@@ -1,12 +1,13 @@
 /** Random runs of at most 512 calls: every answer and every exception as the model of the document has it. */
 public final class RandomRunsTest {
     private static final int RUNS = 1500;
-    private static final int CALLS = 512;
+    // No step of a run asks more often.
+    private static final int MOST_CALLS_OF_A_STEP = 20;
     private static final int[] ODD = {-1, Integer.MIN_VALUE, Integer.MAX_VALUE, 28, 256, 25, 4, 12, 7, 5, 2, 1000};
     private static final String SIGNS = "Ndpwsbrl0123456789 x";
 
     private static long seed;
-    private static SpiralDominoes x;
+    private static Counted x;
     private static Model model;
     private static String call;
 
@@ -25,18 +26,10 @@ public final class RandomRunsTest {
         return below(3) == 0 ? below(100) : (long) below(Integer.MAX_VALUE) * below(Integer.MAX_VALUE) - below(1000);
     }
 
-    private static String outcome(Check.Call asked) {
-        try {
-            return Long.toString(asked.answer());
-        } catch (RuntimeException e) {
-            return e.getClass().getSimpleName();
-        }
-    }
-
     private static boolean agree(int run, String told, Check.Call program, Check.Call due) {
         call = told;
-        String got = outcome(program);
-        String want = outcome(due);
+        String got = Check.outcome(program);
+        String want = Check.outcome(due);
         if (!got.equals(want)) {
             Check.due("run " + run + ": " + told + " (" + got + " for " + want + ")", 1, 0);
             return false;
@@ -45,7 +38,7 @@ public final class RandomRunsTest {
     }
 
     private static int tile() {
-        int set = x.legal();
+        int set = model.legal();
         if (set != 0 && below(3) > 0) {
             int t = below(28);
             for (int k = 0; k < 28; k++) {
@@ -80,7 +73,7 @@ public final class RandomRunsTest {
         if (kind < 95) {
             return agree(run, "restore(" + slot + ")", () -> x.restore(slot), () -> model.restore(slot));
         }
-        if (kind < 98 && x.about(1) == 1) {
+        if (kind < 98 && model.about(1) == 1) {
             return true;
         }
         int players = below(10) == 0 ? mostly(6) : 2 + below(3);
@@ -100,7 +93,7 @@ public final class RandomRunsTest {
             case 2:
                 return agree(run, "tileOf(" + a + ", " + b + ")", () -> x.tileOf(a, b), () -> model.tileOf(a, b));
             case 3:
-                int k = below(3) == 0 ? a : below(Math.max(1, x.about(5)));
+                int k = below(3) == 0 ? a : below(Math.max(1, model.about(5)));
                 return agree(run, "laid(" + k + ", " + b + ")", () -> x.laid(k, b), () -> model.laid(k, b));
             case 4:
                 int p = mostly(4);
@@ -146,7 +139,7 @@ public final class RandomRunsTest {
         for (int k = 0; k < Math.min(4, n); k++) {
             int[] groups = {1000 + 100 * (2 + below(3)) + below(100), 2000 + 100 * below(2) + Math.abs(tile() % 100),
                 3000, 4000, 5000 + below(4), 6000 + below(5), 7000 + 100 * below(5) + below(10), 8000 + below(8),
-                9000 + below(9), Math.max(0, x.best()) + 2000};
+                9000 + below(9), Math.max(0, model.best()) + 2000};
             int group = groups[below(groups.length)];
             int changed = new int[] {1, 10, 100, 1000}[below(4)];
             if (below(10) == 0) {
@@ -203,14 +196,14 @@ public final class RandomRunsTest {
 
     private static void oneRun(int run) {
         seed = 1000L * run + 7;
-        x = new SpiralDominoes();
+        x = new Counted();
         model = new Model();
         boolean same = true;
         boolean withText = run % 3 == 0;
         if (withText) {
             same = agree(run, "append(78)", () -> x.append('N'), () -> model.append('N'));
         }
-        for (int k = 0; same && k < CALLS; k++) {
+        while (same && x.callsLeft() >= MOST_CALLS_OF_A_STEP) {
             int kind = below(10);
             if (withText && kind < 5) {
                 same = oneOfText(run);

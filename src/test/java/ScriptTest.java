@@ -4,10 +4,10 @@ public final class ScriptTest {
     private static final int MAX = Integer.MAX_VALUE;
 
     private static void script(String game, int n, long script, int want) {
-        SpiralDominoes x = Games.acted(game);
+        Counted x = Games.acted(game);
         String before = Games.view(x);
         Check.due(game + ": runScript(" + n + ", " + script + ")", x.runScript(n, script), want);
-        Games.sameView(game + ": runScript(" + n + ", " + script + ") changes nothing", Games.view(x), before);
+        Check.same(game + ": runScript(" + n + ", " + script + ") changes nothing", Games.view(x), before);
     }
 
     private static void commands(String game, boolean good, int... groups) {
@@ -81,7 +81,7 @@ public final class ScriptTest {
     }
 
     private static void promise22WrongArguments() {
-        SpiralDominoes x = Games.acted("d311");
+        Counted x = Games.acted("d311");
         for (int n : new int[] {0, -1, 5, MIN, MAX}) {
             Check.argument("runScript(" + n + ", 0)", () -> x.runScript(n, 0));
         }
@@ -103,32 +103,29 @@ public final class ScriptTest {
     }
 
     private static void simulates(String game, long seed, int m, int want) {
-        SpiralDominoes x = Games.acted(game);
+        Counted x = Games.acted(game);
         String before = Games.view(x);
         Check.due(game + ": simulate(" + seed + ", " + m + ")", x.simulate(seed, m), want);
-        Games.sameView(game + ": simulate(" + seed + ", " + m + ") changes nothing", Games.view(x), before);
+        Check.same(game + ": simulate(" + seed + ", " + m + ") changes nothing", Games.view(x), before);
     }
 
     // One turn after the other by the calls of the face, as promise 23 tells them.
     private static int byCalls(String game, long seed, int m) {
-        SpiralDominoes x = Games.acted(game);
+        Counted x = Games.acted(game);
         int before = x.about(0);
         long number = seed;
         for (int k = 0; k < m; k++) {
             number = number * 6364136223846793005L + 1442695040888963407L;
             int r = (int) (number >>> 33);
             int q = r / 16;
-            int many = Integer.bitCount(x.legal());
+            int set = x.legal();
             if (x.about(1) != 1) {
                 x.deal(2 + q % 3, q);
-            } else if (many > 0) {
-                int t = 0;
-                int skipped = r % 16 % many;
-                while (x.why(t) != 0 || skipped > 0) {
-                    skipped -= x.why(t) == 0 ? 1 : 0;
-                    t++;
+            } else if (set != 0) {
+                for (int skipped = r % 16 % Integer.bitCount(set); skipped > 0; skipped--) {
+                    set -= Integer.lowestOneBit(set);
                 }
-                x.play(t, q % 2 == 1);
+                x.play(Integer.numberOfTrailingZeros(set), q % 2 == 1);
             } else if (x.about(4) > 0) {
                 x.draw();
             } else {
@@ -138,23 +135,35 @@ public final class ScriptTest {
         return 10000 * (x.about(0) - before) + 100 * x.about(5) + x.about(4);
     }
 
+    private static int byModel(String game, long seed, int m) {
+        Model model = new Model();
+        model.append('N');
+        for (int i = 0; i < game.length(); i++) {
+            model.append(game.charAt(i));
+        }
+        Check.due("load() of the model", model.load(), 0);
+        return model.simulate(seed, m);
+    }
+
     private static void promise23Simulate() {
         String[] games = {"", "d311", Games.WON, Games.BLOCKED, Games.COVERED, Games.AT_THE_EDGE};
         long[] seeds = {0, 1, -1, 77, Long.MIN_VALUE, Long.MAX_VALUE};
         for (String game : games) {
             for (long seed : seeds) {
-                for (int m : new int[] {1, 2, 10, 37, 100, 200}) {
+                for (int m : new int[] {1, 2, 10, 37, 100}) {
                     simulates(game, seed, m, byCalls(game, seed, m));
                 }
+                simulates(game, seed, 200, byModel(game, seed, 200));
             }
         }
         // A bare table is its own mirror image: only from a chain that has turned, left and right make a difference.
         for (int seed = 0; seed < 300; seed++) {
-            simulates("", seed, 150, byCalls("", seed, 150));
+            simulates("", seed, 100, byCalls("", seed, 100));
+            simulates("", seed, 200, byModel("", seed, 200));
             simulates(Games.COVERED, seed, 20, byCalls(Games.COVERED, seed, 20));
             simulates("d430p20lp05rp00rp06rp27rp17l", seed, 6, byCalls("d430p20lp05rp00rp06rp27rp17l", seed, 6));
         }
-        SpiralDominoes x = Games.acted("d311");
+        Counted x = Games.acted("d311");
         for (int m : new int[] {0, 201, -1, MIN, MAX}) {
             Check.argument("simulate(1, " + m + ")", () -> x.simulate(1, m));
         }

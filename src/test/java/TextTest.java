@@ -4,7 +4,7 @@ public final class TextTest {
     private static final int MAX = Integer.MAX_VALUE;
 
     private static void promise1NewObject() {
-        SpiralDominoes x = new SpiralDominoes();
+        Counted x = new Counted();
         int[] about = {0, 0, 0, -1, 0, 0, -1, 0, 0, 0, 0, 0};
         for (int what = 0; what < 12; what++) {
             Check.due("new: about(" + what + ")", x.about(what), about[what]);
@@ -32,7 +32,7 @@ public final class TextTest {
     }
 
     private static void promise2Append() {
-        SpiralDominoes x = new SpiralDominoes();
+        Counted x = new Counted();
         Check.argument("append(-1)", () -> x.append(-1));
         Check.argument("append(256)", () -> x.append(256));
         Check.argument("append(MIN)", () -> x.append(MIN));
@@ -50,7 +50,7 @@ public final class TextTest {
     }
 
     private static void promise3ClearText() {
-        SpiralDominoes x = new SpiralDominoes();
+        Counted x = new Counted();
         Games.write(x, "Nx");
         Check.due("clearText()", x.clearText(), 2);
         Check.due("clearText() again", x.clearText(), 0);
@@ -60,11 +60,11 @@ public final class TextTest {
         Games.act(x, Games.WON);
         String before = Games.view(x);
         Check.due("clearText() in a round", x.clearText(), 1);
-        Games.sameView("clearText() changes nothing else", Games.view(x), before);
+        Check.same("clearText() changes nothing else", Games.view(x), before);
     }
 
     private static void error(String text, int want) {
-        SpiralDominoes x = new SpiralDominoes();
+        Counted x = new Counted();
         Games.write(x, text);
         Check.due("errorPosition() of " + text, x.errorPosition(), want);
         Check.due("the text behind errorPosition() of " + text, x.clearText(), text.length());
@@ -101,13 +101,13 @@ public final class TextTest {
     }
 
     private static void promise5LoadThatThrows() {
-        SpiralDominoes x = Games.acted(Games.BLOCKED);
+        Counted x = Games.acted(Games.BLOCKED);
         x.save(0);
         x.deal(2, 5);
         String before = Games.view(x);
         Games.write(x, "Nd211p");
         Check.state("load() of no game", () -> x.load());
-        Games.sameView("a load() that throws changes nothing", Games.view(x), before);
+        Check.same("a load() that throws changes nothing", Games.view(x), before);
         Check.due("undo() behind a load() that throws", x.undo(), 13);
         Check.due("restore(0) behind a load() that throws", x.restore(0), 1);
         Check.due("the text behind a load() that throws", x.clearText(), 6);
@@ -115,33 +115,33 @@ public final class TextTest {
     }
 
     private static void promise5LoadMakesNew() {
-        SpiralDominoes refused = Games.acted("d311w");
+        Counted refused = Games.acted("d311w");
         Check.due("play() refused", refused.play(0, false), 1);
         Games.write(refused, "N");
         Check.due("load() of N", refused.load(), 0);
-        Games.sameView("load() of N behind a refused play()", Games.view(refused), Games.view(new SpiralDominoes()));
-        SpiralDominoes x = Games.acted(Games.BLOCKED);
+        Check.same("load() of N behind a refused play()", Games.view(refused), Games.view(new Counted()));
+        Counted x = Games.acted(Games.BLOCKED);
         x.save(0);
         x.save(1);
         Games.write(x, "N");
         Check.due("load() of N", x.load(), 0);
-        Games.sameView("load() of N", Games.view(x), Games.view(new SpiralDominoes()));
+        Check.same("load() of N", Games.view(x), Games.view(new Counted()));
         Check.state("undo() behind load()", () -> x.undo());
         Check.state("restore(0) behind load()", () -> x.restore(0));
         Check.state("restore(1) behind load()", () -> x.restore(1));
         Games.write(x, "d311");
         Check.due("load() of Nd311", x.load(), 0);
-        Games.sameView("load() of Nd311", Games.view(x), Games.view(Games.acted("d311")));
+        Check.same("load() of Nd311", Games.view(x), Games.view(Games.acted("d311")));
         Check.state("undo() behind load() of Nd311", () -> x.undo());
         Check.due("the text behind load()", x.clearText(), 5);
     }
 
     private static void loads(String text, int leftOut, String sameAs) {
-        SpiralDominoes x = new SpiralDominoes();
+        Counted x = new Counted();
         Games.write(x, text);
         for (int k = 0; k < 2; k++) {
             Check.due("load() of " + text, x.load(), leftOut);
-            Games.sameView("load() of " + text, Games.view(x), Games.view(Games.acted(sameAs)));
+            Check.same("load() of " + text, Games.view(x), Games.view(Games.acted(sameAs)));
         }
     }
 
