@@ -89,6 +89,16 @@ public final class ActionEdgesTest {
         }
     }
 
+    // "An object is used for at most 512 calls after it has been made"
+    private static void theLastOf512Calls() {
+        Counted x = new Counted();
+        for (int k = 1; k <= 510; k++) {
+            Check.due("deal() as call " + k, x.deal(2 + k % 3, k), k);
+        }
+        Check.due("undo() as call 511", x.undo(), 13);
+        Check.due("about(0) as call 512", x.about(0), 509);
+    }
+
     // ---- promise 13
 
     // "Throws IndexOutOfBoundsException if there is no such tile"
@@ -513,6 +523,7 @@ public final class ActionEdgesTest {
         dealInARoundThatIsPlayed();
         dealBehindARoundThatIsOver();
         theFirstTurnOfManyRounds();
+        theLastOf512Calls();
         playOfNoTile();
         playWithoutARound();
         playOfNoTileWithoutARound();
